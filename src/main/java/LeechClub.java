@@ -310,7 +310,7 @@ public final class LeechClub {
         for (int m = 0; m < now.members; m++) {
             foretellPuts(m, n);
         }
-        plan.choose(0);
+        plan.choose();
         return leech == NONE ? plan.most : plan.best[leech];
     }
 
@@ -870,11 +870,11 @@ public final class LeechClub {
             }
             end = start;
             if (isSmall(start)) {
-                while (isSmall(end)) {
+                while (end < length && isSmall(end)) {
                     end++;
                 }
             } else if (isDigit(start)) {
-                while (isDigit(end)) {
+                while (end < length && isDigit(end)) {
                     end++;
                 }
             } else if (start < length) {
@@ -1064,21 +1064,25 @@ public final class LeechClub {
             }
         }
 
+        void choose() {
+            chooseFrom(0);
+        }
+
         /** Tries all choices for this leech and those behind it, the first ones first. */
-        void choose(int leech) {
+        private void chooseFrom(int leech) {
             if (leech >= leeches) {
                 judge();
                 return;
             }
             choice[leech] = NONE;
-            choose(leech + 1);
+            chooseFrom(leech + 1);
             if (!hasBit(off, leech)) {
                 return;
             }
             for (int m = 0; m < members; m++) {
                 choice[leech] = m;
                 puts[m] |= 1 << leech;
-                choose(leech + 1);
+                chooseFrom(leech + 1);
                 puts[m] &= ~(1 << leech);
             }
         }
