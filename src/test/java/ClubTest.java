@@ -20,6 +20,7 @@ public final class ClubTest {
         undoOfEach();
         keepAndBack();
         count();
+        fullClub();
         check.end();
     }
 
@@ -64,6 +65,10 @@ public final class ClubTest {
         LeechClub half = Check.clubOf("fact;fact;fact;fact;member bd");
         check.due("clear by halves, above", half.member(0, 2), 1);
         check.due("clear by halves, below", half.member(0, 3), 2);
+        LeechClub lower = Check.clubOf(CLUB);
+        check.due("below alone", lower.member(1, 3), 5);
+        check.due("below of another", lower.member(0, 3), 1);
+        check.due("above of the first", lower.member(1, 2), 3);
         LeechClub none = Check.clubOf("member");
         check.due("clear of no facts, above", none.member(0, 2), 1);
         check.due("clear of no facts, below", none.member(0, 3), 1);
@@ -311,6 +316,34 @@ public final class ClubTest {
         check.due("keep(0) again", x.keep(0), 5);
         x.minute(5);
         check.due("back(0), the later one", x.back(0), 5);
+    }
+
+    /** As many facts, members and leeches as there can be. */
+    private static void fullClub() {
+        LeechClub x = Check.clubOf("fact;fact a;fact b;fact c;fact d;fact e;fact f;fact g;fact h;fact i;fact j;fact k");
+        Check.tell(x, "member l;member k;member a;member;greedy;greedy;greedy;greedy;greedy;on 0 0;on 1 0;on 2 0;on 3 1;on 4 3");
+        check.due("club", x.club(), 14);
+        check.due("facts that are known", x.count(6), 4095);
+        check.due("all of the last", x.fact(11, 1), 4095);
+        check.due("who knows the first", x.fact(0, 2), 7);
+        check.due("leeches on the last member", x.member(3, 1), 16);
+        check.due("ahead", x.ahead(0, 1), 7);
+        check.due("gone", x.gone(0, 3), 1);
+        check.due("minute", x.minute(1), 1);
+        check.due("who has the last", x.fact(11, 3), 1);
+        check.due("who has the eighth", x.fact(7, 3), 2);
+        check.due("who has the ninth", x.fact(8, 3), 10);
+        check.due("facts that are known", x.count(6), 255);
+        x.put(4, LeechClub.NONE);
+        check.due("off", x.count(5), 16);
+        check.due("the basin", x.salt(4), 0);
+        check.due("read", x.read(3, 11), 12);
+        check.due("soonest", x.soonest(3, 4095, 0, 1), 3);
+        check.due("ask", x.ask(3, 1), 0);
+        check.due("most", x.most(12, 0, 4), LeechClub.NONE);
+        check.due("most", x.most(11, 1, 4), 3);
+        check.due("most", x.most(11, 1, LeechClub.NONE), 9);
+        check.due("undo", x.undo(), 3);
     }
 
     private static void count() {

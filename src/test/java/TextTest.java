@@ -68,6 +68,9 @@ public final class TextTest {
             fault(word, LeechClub.NONE);
             fault("  " + word + "  ;" + word + " ", LeechClub.NONE);
             fault(word + "s", 0);
+            fault(word + "z", 0);
+            fault("x" + word.substring(1), 0);
+            fault(word.substring(0, word.length() - 1) + "x", 0);
             fault(word.substring(1), 0);
             fault(word + ";", word.length() + 1);
             fault(word + " ; ", word.length() + 3);
@@ -115,6 +118,7 @@ public final class TextTest {
         fault("common;member;on  0  0  ", LeechClub.NONE);
         fault("common;member;on 00", 17);
         fault("common;member;on 0 00", 19);
+        fault("common;member;on 09", 17);
         fault("common;member;on 1 0", 17);
         fault("common;member;on 0 1", 19);
         fault("common;member;on 0 9", 19);
@@ -142,6 +146,14 @@ public final class TextTest {
         fault("muff;muff;muff;muff;muff", LeechClub.NONE);
         fault("muff;muff;muff;muff;muff;common", 25);
         fault("muff;muff;common;striped;greedy;bishop", 32);
+        fault("club" + " ".repeat(196), LeechClub.NONE);
+        fault(" ".repeat(200), 200);
+        fault(" ".repeat(196) + "club", LeechClub.NONE);
+        fault(" ".repeat(180) + "common;member;on 0 0", LeechClub.NONE);
+        fault(" ".repeat(199) + ";", 199);
+        fault(" ".repeat(195) + "muff;", 200);
+        fault("club;" + "x".repeat(195), 5);
+        fault("club;" + "5".repeat(195), 5);
         String nineteen = "club;".repeat(19);
         fault(nineteen + "club", LeechClub.NONE);
         fault(nineteen + "club  ", LeechClub.NONE);
@@ -211,7 +223,12 @@ public final class TextTest {
         check.due("leech 0 has", x.leech(0, 2), 0);
         check.due("leech 1 has", x.leech(1, 2), 0);
         Check.tell(x, "club;member");
+        x.minute(3);
+        x.put(0, LeechClub.NONE);
+        check.due("something is salted", x.salt(0), 3);
         check.due("club club", x.club(), 2);
+        check.due("minute", x.count(3), 0);
+        check.due("basin", x.count(4), 0);
         check.due("facts", x.count(0), 0);
         check.due("members", x.count(1), 1);
         check.due("leeches", x.count(2), 0);
