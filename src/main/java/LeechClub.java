@@ -849,7 +849,7 @@ public final class LeechClub {
             clauses = 0;
             end = 0;
             step();
-            while (clauses < MOST_CLAUSES && isClauseDone()) {
+            while (clauses < MOST_CLAUSES && takeClause()) {
                 clauses++;
                 if (start == length) {
                     return NONE;
@@ -903,7 +903,7 @@ public final class LeechClub {
         }
 
         /** Does one clause and steps behind it; false leaves the token that cannot stand there. */
-        private boolean isClauseDone() {
+        private boolean takeClause() {
             if (isWord("club")) {
                 facts.size = 0;
                 room.setEmpty();
@@ -911,18 +911,18 @@ public final class LeechClub {
                 return true;
             }
             if (isWord("fact")) {
-                return isFactDone();
+                return takeFact();
             }
             if (isWord("member")) {
-                return isMemberDone();
+                return takeMember();
             }
             if (isWord("on")) {
-                return isOnDone();
+                return takeOn();
             }
-            return isLeechDone();
+            return takeLeech();
         }
 
-        private boolean isFactDone() {
+        private boolean takeFact() {
             if (facts.size == MOST_FACTS) {
                 return false;
             }
@@ -935,7 +935,7 @@ public final class LeechClub {
             return true;
         }
 
-        private boolean isMemberDone() {
+        private boolean takeMember() {
             if (room.members == MOST_MEMBERS) {
                 return false;
             }
@@ -948,7 +948,7 @@ public final class LeechClub {
             return true;
         }
 
-        private boolean isLeechDone() {
+        private boolean takeLeech() {
             int kind = kindOfWord();
             if (kind == NONE || room.leeches == MOST_LEECHES) {
                 return false;
@@ -958,7 +958,7 @@ public final class LeechClub {
             return true;
         }
 
-        private boolean isOnDone() {
+        private boolean takeOn() {
             step();
             int leech = numberBelow(room.leeches);
             if (leech == NONE) {
