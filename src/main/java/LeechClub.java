@@ -343,7 +343,7 @@ public final class LeechClub {
         if (sightings.size >= MOST_SEEN) {
             return FULL;
         }
-        sightings.add(now.knows[member], n, fact, knew);
+        sightings.add(member, n, fact, knew);
         return sightings.size;
     }
 
@@ -604,7 +604,9 @@ public final class LeechClub {
 
     private boolean fitsAll(int kind) {
         for (int i = 0; i < sightings.size; i++) {
-            int after = knownAfterAlone(sightings.knows[i], kind, sightings.minutes[i]);
+            int member = sightings.member[i];
+            int knows = now.hasMember(member) ? now.knows[member] : 0;
+            int after = knownAfterAlone(knows, kind, sightings.minutes[i]);
             if ((after >> sightings.fact[i] & 1) != sightings.knew[i]) {
                 return false;
             }
@@ -1017,17 +1019,20 @@ public final class LeechClub {
         }
     }
 
-    /** What was seen, a row of each: what he knew at first, for how long, of which fact, whether he knew it then. */
+    /**
+     * What was seen, a row of each: of whom, for how long, of which fact, whether he knew it then. What he knew at first is
+     * not held: it is what he knows at the time when the kinds are asked for. Only club() takes members away, and it empties this.
+     */
     private static final class Sightings {
         int size;
-        final int[] knows = new int[MOST_SEEN];
+        final int[] member = new int[MOST_SEEN];
         final int[] minutes = new int[MOST_SEEN];
         final int[] fact = new int[MOST_SEEN];
         final int[] knew = new int[MOST_SEEN];
 
-        void add(int knownSet, int n, int seenFact, int knewIt) {
+        void add(int seenMember, int n, int seenFact, int knewIt) {
             if (size < MOST_SEEN) {
-                knows[size] = knownSet;
+                member[size] = seenMember;
                 minutes[size] = n;
                 fact[size] = seenFact;
                 knew[size] = knewIt;

@@ -19,7 +19,9 @@ public final class ForetoldTest {
         sound();
         seenAndKinds();
         seenRefused();
-        seenIsOfThen();
+        seenIsOfNow();
+        seenIsOfHimAlone();
+        seenIsOfThisClub();
         ask();
         check.end();
     }
@@ -267,19 +269,69 @@ public final class ForetoldTest {
         check.refused(x, "knew -1", LeechClub.OUTSIDE, () -> x.seen(0, 1, 0, -1));
     }
 
-    private static void seenIsOfThen() {
+    private static void seenIsOfNow() {
+        LeechClub x = Check.clubOf("fact;fact;member a;common;on 0 0");
+        x.seen(0, 1, 0, 0);
+        seenNow(x, "he knows 0 alone, all take it", 31, LeechClub.NONE);
+        x.read(0, 1);
+        seenNow(x, "behind read, a common takes 1 and leaves 0", 30, 1);
+        x.undo();
+        seenNow(x, "behind undo", 31, LeechClub.NONE);
+        x.read(0, 1);
+        x.keep(0);
+        x.minute(1);
+        seenNow(x, "behind a minute", 31, LeechClub.NONE);
+        x.undo();
+        seenNow(x, "behind the minute undone", 30, 1);
+        x.minute(2);
+        seenNow(x, "he knows nothing", 31, LeechClub.NONE);
+        x.back(0);
+        seenNow(x, "behind back", 30, 1);
+        x.seen(0, 1, 1, 1);
+        check.due("a bishop alone leaves 1", x.kinds(), 24);
+        x.minute(1);
+        check.due("1 is lost, none leaves it", x.kinds(), 0);
+        check.due("none to part", x.ask(0, 1), LeechClub.NONE);
+        check.due("seen is as many", x.count(7), 2);
+    }
+
+    private static void seenNow(LeechClub x, String when, int kinds, int ask) {
+        check.due(when + ": kinds()", x.kinds(), kinds);
+        check.due(when + ": ask(0, 1)", x.ask(0, 1), ask);
+        check.due(when + ": what was seen stays", x.count(7), 1);
+    }
+
+    /** What else changes tells nothing of the kinds: leeches on him, other members, what the basin has. */
+    private static void seenIsOfHimAlone() {
         LeechClub x = Check.clubOf(FOUR);
+        x.seen(0, 1, 0, 1);
         x.put(0, 0);
         x.put(1, 0);
-        x.seen(0, 1, 0, 1);
         check.due("nobody else is on him", x.kinds(), 7);
-        x.minute(4);
-        check.due("it is of the member as he was", x.kinds(), 7);
-        x.undo();
-        check.due("undo leaves what was seen", x.count(7), 1);
-        x.keep(0);
-        x.back(0);
-        check.due("back leaves what was seen", x.count(7), 1);
+        x.put(0, 1);
+        x.put(1, 1);
+        x.minute(2);
+        check.due("another lost all", x.member(1, 0), 0);
+        check.due("he did not", x.kinds(), 7);
+        x.seen(1, 1, 0, 0);
+        check.due("of the other too", x.kinds(), 7);
+        x.read(1, 0);
+        x.read(1, 1);
+        check.due("by now striped and greedy leave him nothing", x.kinds(), 6);
+        check.due("the two are parted by fact 1", x.ask(0, 1), 1);
+    }
+
+    /** A club told anew empties what was seen, also of members that there are no more. */
+    private static void seenIsOfThisClub() {
+        LeechClub x = Check.clubOf(FOUR);
+        x.seen(1, 1, 0, 0);
+        check.due("deep, or more than one", x.kinds(), 30);
+        Check.tell(x, "club;fact;member a");
+        check.due("told", x.club(), 3);
+        check.due("nothing is seen", x.count(7), 0);
+        check.due("all kinds", x.kinds(), 31);
+        check.due("a first one", x.seen(0, 1, 0, 1), 1);
+        check.due("none leaves it", x.kinds(), 0);
     }
 
     private static void ask() {

@@ -603,7 +603,7 @@ final class Model {
                 if (seen.size() == 6) {
                     return -5;
                 }
-                seen.add(new int[] {bits(now.members.get(a[0])), a[1], a[2], a[3]});
+                seen.add(a.clone());
                 return seen.size();
             case "forget":
                 int had = seen.size();
@@ -641,7 +641,7 @@ final class Model {
 
     private TreeSet<Integer> fitting() {
         TreeSet<Integer> kinds = new TreeSet<>(List.of(0, 1, 2, 3, 4));
-        kinds.removeIf(kind -> seen.stream().anyMatch(s -> alone(set(s[0]), kind, s[1]).contains(s[2]) != (s[3] == 1)));
+        kinds.removeIf(kind -> seen.stream().anyMatch(s -> alone(now.members.get(s[0]), kind, s[1]).contains(s[2]) != (s[3] == 1)));
         return kinds;
     }
 
