@@ -21,6 +21,7 @@ public final class ClubTest {
         keepAndBack();
         count();
         fullClub();
+        smallerClub();
         check.end();
     }
 
@@ -344,6 +345,28 @@ public final class ClubTest {
         check.due("most", x.most(11, 1, 4), 3);
         check.due("most", x.most(11, 1, LeechClub.NONE), 9);
         check.due("undo", x.undo(), 3);
+    }
+
+    /** Members and leeches of the club before are no more, whatever they knew and had. */
+    private static void smallerClub() {
+        LeechClub x = Check.clubOf("fact;fact a;member ab;member ab;member b;greedy;muff;bishop;on 1 1;on 2 2");
+        x.minute(1);
+        Check.tell(x, "club;fact;fact;member b;striped");
+        check.due("club()", x.club(), 5);
+        check.due("who knows 0", x.fact(0, 2), 0);
+        check.due("who knows 1", x.fact(1, 2), 1);
+        check.due("who has 0", x.fact(0, 3), 0);
+        check.due("what is known", x.count(6), 2);
+        check.due("leeches that are off", x.count(5), 1);
+        check.due("leeches on him", x.member(0, 1), 0);
+        check.refused(x, "member 1 is no more", LeechClub.UNKNOWN, () -> x.member(1, 0));
+        check.refused(x, "leech 1 is no more", LeechClub.UNKNOWN, () -> x.leech(1, 0));
+        check.due("most", x.most(12, 0, LeechClub.NONE), 1);
+        Check.tell(x, "club;fact;member");
+        check.due("club()", x.club(), 3);
+        check.due("nobody knows 0", x.fact(0, 2), 0);
+        check.due("nothing has 0", x.fact(0, 3), 0);
+        check.due("no leech is off", x.count(5), 0);
     }
 
     private static void count() {
