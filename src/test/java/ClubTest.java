@@ -26,7 +26,7 @@ public final class ClubTest {
     }
 
     private static void fact() {
-        LeechClub x = Check.clubOf(CLUB);
+        CountedClub x = CountedClub.of(CLUB);
         int[] leans = {0, 1, 0, 6, 8};
         int[] all = {1, 3, 4, 15, 31};
         int[] known = {3, 3, 1, 1, 1};
@@ -41,14 +41,14 @@ public final class ClubTest {
         check.due("who has 0", x.fact(0, 3), 8);
         check.due("who has 1, that was lost", x.fact(1, 3), 0);
         check.due("who knows 1 yet", x.fact(1, 2), 1);
-        check.refused(x, "fact(5, 0)", LeechClub.UNKNOWN, () -> x.fact(5, 0));
-        check.refused(x, "fact(-1, 9)", LeechClub.UNKNOWN, () -> x.fact(-1, 9));
-        check.refused(x, "fact(0, 4)", LeechClub.OUTSIDE, () -> x.fact(0, 4));
-        check.refused(x, "fact(0, -1)", LeechClub.OUTSIDE, () -> x.fact(0, -1));
+        check.unchanged(x, "fact(5, 0)", LeechClub.UNKNOWN, () -> x.fact(5, 0));
+        check.unchanged(x, "fact(-1, 9)", LeechClub.UNKNOWN, () -> x.fact(-1, 9));
+        check.unchanged(x, "fact(0, 4)", LeechClub.OUTSIDE, () -> x.fact(0, 4));
+        check.unchanged(x, "fact(0, -1)", LeechClub.OUTSIDE, () -> x.fact(0, -1));
     }
 
     private static void member() {
-        LeechClub x = Check.clubOf(CLUB);
+        CountedClub x = CountedClub.of(CLUB);
         int[] knows = {31, 3, 0};
         int[] leeches = {1, 8, 0};
         int[] above = {0, 3, 1};
@@ -59,24 +59,24 @@ public final class ClubTest {
             check.due("member(" + m + ", 2)", x.member(m, 2), above[m]);
             check.due("member(" + m + ", 3)", x.member(m, 3), below[m]);
         }
-        check.refused(x, "member(3, 9)", LeechClub.UNKNOWN, () -> x.member(3, 9));
-        check.refused(x, "member(-1, 0)", LeechClub.UNKNOWN, () -> x.member(-1, 0));
-        check.refused(x, "member(0, 4)", LeechClub.OUTSIDE, () -> x.member(0, 4));
-        check.refused(x, "member(0, -1)", LeechClub.OUTSIDE, () -> x.member(0, -1));
-        LeechClub half = Check.clubOf("fact;fact;fact;fact;member bd");
+        check.unchanged(x, "member(3, 9)", LeechClub.UNKNOWN, () -> x.member(3, 9));
+        check.unchanged(x, "member(-1, 0)", LeechClub.UNKNOWN, () -> x.member(-1, 0));
+        check.unchanged(x, "member(0, 4)", LeechClub.OUTSIDE, () -> x.member(0, 4));
+        check.unchanged(x, "member(0, -1)", LeechClub.OUTSIDE, () -> x.member(0, -1));
+        CountedClub half = CountedClub.of("fact;fact;fact;fact;member bd");
         check.due("clear by halves, above", half.member(0, 2), 1);
         check.due("clear by halves, below", half.member(0, 3), 2);
-        LeechClub lower = Check.clubOf(CLUB);
+        CountedClub lower = CountedClub.of(CLUB);
         check.due("below alone", lower.member(1, 3), 5);
         check.due("below of another", lower.member(0, 3), 1);
         check.due("above of the first", lower.member(1, 2), 3);
-        LeechClub none = Check.clubOf("member");
+        CountedClub none = CountedClub.of("member");
         check.due("clear of no facts, above", none.member(0, 2), 1);
         check.due("clear of no facts, below", none.member(0, 3), 1);
     }
 
     private static void leech() {
-        LeechClub x = Check.clubOf(CLUB);
+        CountedClub x = CountedClub.of(CLUB);
         int[] on = {0, -1, -1, 1, -1};
         for (int l = 0; l < 5; l++) {
             check.due("leech(" + l + ", 0)", x.leech(l, 0), l);
@@ -87,14 +87,14 @@ public final class ClubTest {
         check.due("has", x.leech(0, 2), 24);
         check.due("has", x.leech(3, 2), 1);
         check.due("on one who knows nothing", x.leech(3, 1), 1);
-        check.refused(x, "leech(5, 9)", LeechClub.UNKNOWN, () -> x.leech(5, 9));
-        check.refused(x, "leech(-1, 0)", LeechClub.UNKNOWN, () -> x.leech(-1, 0));
-        check.refused(x, "leech(0, 3)", LeechClub.OUTSIDE, () -> x.leech(0, 3));
-        check.refused(x, "leech(0, -1)", LeechClub.OUTSIDE, () -> x.leech(0, -1));
+        check.unchanged(x, "leech(5, 9)", LeechClub.UNKNOWN, () -> x.leech(5, 9));
+        check.unchanged(x, "leech(-1, 0)", LeechClub.UNKNOWN, () -> x.leech(-1, 0));
+        check.unchanged(x, "leech(0, 3)", LeechClub.OUTSIDE, () -> x.leech(0, 3));
+        check.unchanged(x, "leech(0, -1)", LeechClub.OUTSIDE, () -> x.leech(0, -1));
     }
 
     private static void as() {
-        LeechClub x = Check.clubOf(CLUB);
+        CountedClub x = CountedClub.of(CLUB);
         int not = LeechClub.NOT;
         int[][] room = {
             {3, 3, not, not, not, not}, {6, 6, 6, not, not, not}, {9, 9, 9, 9, not, not},
@@ -104,15 +104,15 @@ public final class ClubTest {
                 check.due("as(" + l + ", " + kind + ")", x.as(l, kind), room[l][kind]);
             }
         }
-        check.refused(x, "as(5, 9)", LeechClub.UNKNOWN, () -> x.as(5, 9));
-        check.refused(x, "as(-1, 0)", LeechClub.UNKNOWN, () -> x.as(-1, 0));
-        check.refused(x, "as(0, 6)", LeechClub.OUTSIDE, () -> x.as(0, 6));
-        check.refused(x, "as(0, -1)", LeechClub.OUTSIDE, () -> x.as(0, -1));
-        check.refused(x, "as(0, 4)", LeechClub.NOT, () -> x.as(0, 4));
+        check.unchanged(x, "as(5, 9)", LeechClub.UNKNOWN, () -> x.as(5, 9));
+        check.unchanged(x, "as(-1, 0)", LeechClub.UNKNOWN, () -> x.as(-1, 0));
+        check.unchanged(x, "as(0, 6)", LeechClub.OUTSIDE, () -> x.as(0, 6));
+        check.unchanged(x, "as(0, -1)", LeechClub.OUTSIDE, () -> x.as(0, -1));
+        check.unchanged(x, "as(0, 4)", LeechClub.NOT, () -> x.as(0, 4));
     }
 
     private static void minute() {
-        LeechClub x = Check.clubOf(CLUB);
+        CountedClub x = CountedClub.of(CLUB);
         check.due("minute(1)", x.minute(1), 1);
         check.due("newest is taken", x.member(0, 0), 15);
         check.due("oldest is taken, with all that leans on it", x.member(1, 0), 0);
@@ -135,7 +135,7 @@ public final class ClubTest {
     }
 
     private static void byKind(String text, int[] knows, int offBehind) {
-        LeechClub x = Check.clubOf(text);
+        CountedClub x = CountedClub.of(text);
         x.put(0, 0);
         for (int n = 1; n <= knows.length; n++) {
             x.minute(1);
@@ -146,17 +146,17 @@ public final class ClubTest {
     }
 
     private static void minuteInTurn() {
-        LeechClub x = Check.clubOf("fact;fact;fact a;fact;member abcd;greedy;muff;common;on 0 0;on 1 0;on 2 0");
+        CountedClub x = CountedClub.of("fact;fact;fact a;fact;member abcd;greedy;muff;common;on 0 0;on 1 0;on 2 0");
         x.minute(1);
         check.due("the greedy first", x.leech(0, 2), 14);
         check.due("then the muff", x.leech(1, 2), 1);
         check.due("then the common", x.leech(2, 2), 0);
         check.due("who knows nothing", x.member(0, 0), 0);
-        LeechClub y = Check.clubOf("fact;fact;fact a;fact;member abcd;muff;greedy;common;on 0 0;on 1 0;on 2 0");
+        CountedClub y = CountedClub.of("fact;fact;fact a;fact;member abcd;muff;greedy;common;on 0 0;on 1 0;on 2 0");
         y.minute(1);
         check.due("the muff first", y.leech(0, 2), 1);
         check.due("then the greedy, what is left", y.leech(1, 2), 10);
-        LeechClub z = Check.clubOf("fact;fact;fact;member abc;bishop;on 0 0");
+        CountedClub z = CountedClub.of("fact;fact;fact;member abc;bishop;on 0 0");
         z.minute(1);
         z.read(0, 0);
         z.minute(1);
@@ -169,7 +169,7 @@ public final class ClubTest {
         z.minute(1);
         check.due("a sated one takes nothing", z.member(0, 0), 4);
         check.due("and is off", z.leech(0, 1), LeechClub.NONE);
-        LeechClub w = Check.clubOf("fact;fact;fact;fact;fact;member abcde;striped;on 0 0");
+        CountedClub w = CountedClub.of("fact;fact;fact;fact;fact;member abcde;striped;on 0 0");
         w.minute(2);
         w.read(0, 3);
         w.read(0, 4);
@@ -177,7 +177,7 @@ public final class ClubTest {
         w.minute(1);
         check.due("no more than it had", w.leech(0, 2), 30);
         check.due("but he has lost them", w.member(0, 0), 1);
-        LeechClub v = Check.clubOf("fact;fact;fact;fact;fact;fact;fact;member abcdefg;striped;on 0 0");
+        CountedClub v = CountedClub.of("fact;fact;fact;fact;fact;fact;fact;member abcdefg;striped;on 0 0");
         v.minute(2);
         v.read(0, 6);
         v.minute(1);
@@ -188,41 +188,41 @@ public final class ClubTest {
     }
 
     private static void minuteRefused() {
-        LeechClub x = Check.clubOf(CLUB);
-        check.refused(x, "minute(0)", LeechClub.OUTSIDE, () -> x.minute(0));
-        check.refused(x, "minute(13)", LeechClub.OUTSIDE, () -> x.minute(13));
-        check.refused(x, "minute(-1)", LeechClub.OUTSIDE, () -> x.minute(-1));
+        CountedClub x = CountedClub.of(CLUB);
+        check.unchanged(x, "minute(0)", LeechClub.OUTSIDE, () -> x.minute(0));
+        check.unchanged(x, "minute(13)", LeechClub.OUTSIDE, () -> x.minute(13));
+        check.unchanged(x, "minute(-1)", LeechClub.OUTSIDE, () -> x.minute(-1));
         for (int n = 12; n <= 996; n += 12) {
             check.due("minute(12)", x.minute(12), n);
         }
-        check.refused(x, "minute(4) at 996", LeechClub.FULL, () -> x.minute(4));
+        check.unchanged(x, "minute(4) at 996", LeechClub.FULL, () -> x.minute(4));
         check.due("minute(3) at 996", x.minute(3), 999);
-        check.refused(x, "minute(1) at 999", LeechClub.FULL, () -> x.minute(1));
-        check.refused(x, "minute(13) at 999", LeechClub.OUTSIDE, () -> x.minute(13));
+        check.unchanged(x, "minute(1) at 999", LeechClub.FULL, () -> x.minute(1));
+        check.unchanged(x, "minute(13) at 999", LeechClub.OUTSIDE, () -> x.minute(13));
         check.due("ahead at 999", x.ahead(0, 40), 3);
     }
 
     private static void put() {
-        LeechClub x = Check.clubOf(CLUB);
+        CountedClub x = CountedClub.of(CLUB);
         check.due("put(0, 2)", x.put(0, 2), 0);
         check.due("it is there", x.leech(0, 1), 2);
         check.due("put(0, NONE)", x.put(0, LeechClub.NONE), 2);
         check.due("it is off", x.leech(0, 1), LeechClub.NONE);
         check.due("put(1, 0)", x.put(1, 0), LeechClub.NONE);
-        check.refused(x, "put(0, NONE) again", LeechClub.NOT, () -> x.put(0, LeechClub.NONE));
-        check.refused(x, "put(1, 0) again", LeechClub.NOT, () -> x.put(1, 0));
-        check.refused(x, "put(5, 0)", LeechClub.UNKNOWN, () -> x.put(5, 0));
-        check.refused(x, "put(-1, 0)", LeechClub.UNKNOWN, () -> x.put(-1, 0));
-        check.refused(x, "put(0, 3)", LeechClub.UNKNOWN, () -> x.put(0, 3));
-        check.refused(x, "put(0, -2)", LeechClub.UNKNOWN, () -> x.put(0, -2));
+        check.unchanged(x, "put(0, NONE) again", LeechClub.NOT, () -> x.put(0, LeechClub.NONE));
+        check.unchanged(x, "put(1, 0) again", LeechClub.NOT, () -> x.put(1, 0));
+        check.unchanged(x, "put(5, 0)", LeechClub.UNKNOWN, () -> x.put(5, 0));
+        check.unchanged(x, "put(-1, 0)", LeechClub.UNKNOWN, () -> x.put(-1, 0));
+        check.unchanged(x, "put(0, 3)", LeechClub.UNKNOWN, () -> x.put(0, 3));
+        check.unchanged(x, "put(0, -2)", LeechClub.UNKNOWN, () -> x.put(0, -2));
     }
 
     private static void salt() {
-        LeechClub x = Check.clubOf(CLUB);
+        CountedClub x = CountedClub.of(CLUB);
         x.minute(1);
-        check.refused(x, "salt(0), on him", LeechClub.NOT, () -> x.salt(0));
-        check.refused(x, "salt(5)", LeechClub.UNKNOWN, () -> x.salt(5));
-        check.refused(x, "salt(-1)", LeechClub.UNKNOWN, () -> x.salt(-1));
+        check.unchanged(x, "salt(0), on him", LeechClub.NOT, () -> x.salt(0));
+        check.unchanged(x, "salt(5)", LeechClub.UNKNOWN, () -> x.salt(5));
+        check.unchanged(x, "salt(-1)", LeechClub.UNKNOWN, () -> x.salt(-1));
         x.put(0, LeechClub.NONE);
         x.put(3, LeechClub.NONE);
         check.due("salt(0)", x.salt(0), 16);
@@ -234,12 +234,12 @@ public final class ClubTest {
     }
 
     private static void read() {
-        LeechClub x = Check.clubOf(CLUB);
-        check.refused(x, "read what he knows", LeechClub.NOT, () -> x.read(0, 4));
-        check.refused(x, "read(3, 0)", LeechClub.UNKNOWN, () -> x.read(3, 0));
-        check.refused(x, "read(-1, 0)", LeechClub.UNKNOWN, () -> x.read(-1, 0));
-        check.refused(x, "read(0, 5)", LeechClub.UNKNOWN, () -> x.read(0, 5));
-        check.refused(x, "read(0, -1)", LeechClub.UNKNOWN, () -> x.read(0, -1));
+        CountedClub x = CountedClub.of(CLUB);
+        check.unchanged(x, "read what he knows", LeechClub.NOT, () -> x.read(0, 4));
+        check.unchanged(x, "read(3, 0)", LeechClub.UNKNOWN, () -> x.read(3, 0));
+        check.unchanged(x, "read(-1, 0)", LeechClub.UNKNOWN, () -> x.read(-1, 0));
+        check.unchanged(x, "read(0, 5)", LeechClub.UNKNOWN, () -> x.read(0, 5));
+        check.unchanged(x, "read(0, -1)", LeechClub.UNKNOWN, () -> x.read(0, -1));
         check.due("read(1, 3)", x.read(1, 3), 2);
         check.due("he knows all of it", x.member(1, 0), 15);
         check.due("read(2, 4)", x.read(2, 4), 5);
@@ -247,8 +247,8 @@ public final class ClubTest {
     }
 
     private static void undo() {
-        LeechClub x = Check.clubOf("fact;member;common");
-        check.refused(x, "undo of nothing", LeechClub.NOT, x::undo);
+        CountedClub x = CountedClub.of("fact;member;common");
+        check.unchanged(x, "undo of nothing", LeechClub.NOT, x::undo);
         for (int i = 1; i <= 10; i++) {
             x.minute(i);
             check.due("undoable", x.count(9), Math.min(i, 8));
@@ -260,46 +260,46 @@ public final class ClubTest {
             minute -= i;
             check.due("minute behind undo", x.count(3), minute);
         }
-        check.refused(x, "a ninth undo", LeechClub.NOT, x::undo);
+        check.unchanged(x, "a ninth undo", LeechClub.NOT, x::undo);
         check.due("minute at last", x.count(3), 3);
     }
 
     private static void undoOfEach() {
-        LeechClub x = Check.clubOf(CLUB);
+        CountedClub x = CountedClub.of(CLUB);
         java.util.List<java.util.List<Integer>> states = new java.util.ArrayList<>();
-        states.add(Check.seenOf(x));
+        states.add(Looks.at(x));
         x.minute(3);
-        states.add(Check.seenOf(x));
+        states.add(Looks.at(x));
         x.salt(0);
-        states.add(Check.seenOf(x));
+        states.add(Looks.at(x));
         x.read(1, 4);
-        states.add(Check.seenOf(x));
+        states.add(Looks.at(x));
         x.put(3, LeechClub.NONE);
-        states.add(Check.seenOf(x));
+        states.add(Looks.at(x));
         x.put(4, 2);
         x.undo();
-        check.holds("put of one that was off is undone", Check.seenOf(x).equals(states.get(4)));
+        check.holds("put of one that was off is undone", Looks.at(x).equals(states.get(4)));
         for (int i = 3; i >= 0; i--) {
             check.due("undo", x.undo(), i);
-            check.holds("it is as before " + i, Check.seenOf(x).equals(states.get(i)));
+            check.holds("it is as before " + i, Looks.at(x).equals(states.get(i)));
         }
     }
 
     private static void keepAndBack() {
-        LeechClub x = Check.clubOf(CLUB);
-        check.refused(x, "keep(2)", LeechClub.UNKNOWN, () -> x.keep(2));
-        check.refused(x, "keep(-1)", LeechClub.UNKNOWN, () -> x.keep(-1));
-        check.refused(x, "back(2)", LeechClub.UNKNOWN, () -> x.back(2));
-        check.refused(x, "back(-1)", LeechClub.UNKNOWN, () -> x.back(-1));
-        check.refused(x, "back(0)", LeechClub.NOT, () -> x.back(0));
+        CountedClub x = CountedClub.of(CLUB);
+        check.unchanged(x, "keep(2)", LeechClub.UNKNOWN, () -> x.keep(2));
+        check.unchanged(x, "keep(-1)", LeechClub.UNKNOWN, () -> x.keep(-1));
+        check.unchanged(x, "back(2)", LeechClub.UNKNOWN, () -> x.back(2));
+        check.unchanged(x, "back(-1)", LeechClub.UNKNOWN, () -> x.back(-1));
+        check.unchanged(x, "back(0)", LeechClub.NOT, () -> x.back(0));
         check.due("keep(0)", x.keep(0), 0);
         x.minute(3);
         x.salt(0);
         x.read(2, 2);
-        check.refused(x, "back(1)", LeechClub.NOT, () -> x.back(1));
+        check.unchanged(x, "back(1)", LeechClub.NOT, () -> x.back(1));
         check.due("keep(1)", x.keep(1), 3);
         check.due("keep leaves what can be undone", x.count(9), 3);
-        java.util.List<Integer> then = Check.seenOf(x);
+        java.util.List<Integer> then = Looks.atRoomOf(x);
         x.put(4, 2);
         x.minute(1);
         check.due("back(0)", x.back(0), 0);
@@ -310,8 +310,7 @@ public final class ClubTest {
         check.due("on whom", x.leech(0, 1), 0);
         check.due("basin", x.count(4), 0);
         check.due("back(1)", x.back(1), 3);
-        then.set(9, 0);
-        check.holds("it is as it was kept", Check.seenOf(x).equals(then));
+        check.holds("it is as it was kept", Looks.atRoomOf(x).equals(then));
         check.due("back(0) again", x.back(0), 0);
         x.minute(5);
         check.due("keep(0) again", x.keep(0), 5);
@@ -321,8 +320,8 @@ public final class ClubTest {
 
     /** As many facts, members and leeches as there can be. */
     private static void fullClub() {
-        LeechClub x = Check.clubOf("fact;fact a;fact b;fact c;fact d;fact e;fact f;fact g;fact h;fact i;fact j;fact k");
-        Check.tell(x, "member l;member k;member a;member;greedy;greedy;greedy;greedy;greedy;on 0 0;on 1 0;on 2 0;on 3 1;on 4 3");
+        CountedClub x = CountedClub.of("fact;fact a;fact b;fact c;fact d;fact e;fact f;fact g;fact h;fact i;fact j;fact k");
+        x.tell("member l;member k;member a;member;greedy;greedy;greedy;greedy;greedy;on 0 0;on 1 0;on 2 0;on 3 1;on 4 3");
         check.due("club", x.club(), 14);
         check.due("facts that are known", x.count(6), 4095);
         check.due("all of the last", x.fact(11, 1), 4095);
@@ -349,9 +348,9 @@ public final class ClubTest {
 
     /** Members and leeches of the club before are no more, whatever they knew and had. */
     private static void smallerClub() {
-        LeechClub x = Check.clubOf("fact;fact a;member ab;member ab;member b;greedy;muff;bishop;on 1 1;on 2 2");
+        CountedClub x = CountedClub.of("fact;fact a;member ab;member ab;member b;greedy;muff;bishop;on 1 1;on 2 2");
         x.minute(1);
-        Check.tell(x, "club;fact;fact;member b;striped");
+        x.tell("club;fact;fact;member b;striped");
         check.due("club()", x.club(), 5);
         check.due("who knows 0", x.fact(0, 2), 0);
         check.due("who knows 1", x.fact(1, 2), 1);
@@ -359,10 +358,10 @@ public final class ClubTest {
         check.due("what is known", x.count(6), 2);
         check.due("leeches that are off", x.count(5), 1);
         check.due("leeches on him", x.member(0, 1), 0);
-        check.refused(x, "member 1 is no more", LeechClub.UNKNOWN, () -> x.member(1, 0));
-        check.refused(x, "leech 1 is no more", LeechClub.UNKNOWN, () -> x.leech(1, 0));
+        check.unchanged(x, "member 1 is no more", LeechClub.UNKNOWN, () -> x.member(1, 0));
+        check.unchanged(x, "leech 1 is no more", LeechClub.UNKNOWN, () -> x.leech(1, 0));
         check.due("most", x.most(12, 0, LeechClub.NONE), 1);
-        Check.tell(x, "club;fact;member");
+        x.tell("club;fact;member");
         check.due("club()", x.club(), 3);
         check.due("nobody knows 0", x.fact(0, 2), 0);
         check.due("nothing has 0", x.fact(0, 3), 0);
@@ -370,8 +369,8 @@ public final class ClubTest {
     }
 
     private static void count() {
-        LeechClub x = Check.clubOf(CLUB);
-        Check.tell(x, "club");
+        CountedClub x = CountedClub.of(CLUB);
+        x.tell("club");
         x.minute(3);
         x.salt(0);
         x.seen(0, 1, 0, 1);
@@ -380,7 +379,7 @@ public final class ClubTest {
         for (int what = 0; what <= 10; what++) {
             check.due("count(" + what + ")", x.count(what), due[what]);
         }
-        check.refused(x, "count(11)", LeechClub.OUTSIDE, () -> x.count(11));
-        check.refused(x, "count(-1)", LeechClub.OUTSIDE, () -> x.count(-1));
+        check.unchanged(x, "count(11)", LeechClub.OUTSIDE, () -> x.count(11));
+        check.unchanged(x, "count(-1)", LeechClub.OUTSIDE, () -> x.count(-1));
     }
 }

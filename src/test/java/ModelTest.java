@@ -1,7 +1,3 @@
-import java.lang.reflect.Method;
-import java.lang.reflect.Modifier;
-import java.util.ArrayList;
-import java.util.Comparator;
 import java.util.HashMap;
 import java.util.List;
 import java.util.Map;
@@ -27,27 +23,25 @@ public final class ModelTest {
         "reckon -3", "reckon -4", "reckon -11", "reckon -12", "reckon -14", "reckon -15", "copy", "copy -2", "copy -11",
         "copy -13", "copy -14", "drop", "drop -2", "drop -11", "count", "count -3"};
 
+    /** What would end or undo too much if it came as often as the others, or takes long. */
+    private static final List<String> RARE = List.of("most", "drop", "forget", "erase", "write", "club", "back", "slate");
+
     private static long state = 1;
-    private static int wrongRuns = 0;
 
     private static int random(int bound) {
         state = state * 6364136223846793005L + 1442695040888963407L;
         return (int) ((state >>> 33) % bound);
     }
 
-    public static void main(String[] args) throws Exception {
-        List<Method> face = new ArrayList<>();
-        for (Method m : LeechClub.class.getDeclaredMethods()) {
-            if (Modifier.isPublic(m.getModifiers())) {
-                face.add(m);
-            }
-        }
-        face.sort(Comparator.comparing(Method::getName));
+    public static void main(String[] args) {
         int runs = args.length > 0 ? Integer.parseInt(args[0]) : 700;
         Map<String, Integer> answered = new HashMap<>();
+        int wrongRuns = 0;
         for (int run = 0; run < runs && wrongRuns < 5; run++) {
             state = run * 7919L + 17;
-            oneRun(run, face, answered);
+            Both both = new Both(check, "run " + run);
+            oneRun(both, answered);
+            wrongRuns += both.differs() ? 1 : 0;
         }
         for (String each : EACH) {
             check.holds(each + " was met", runs < 700 || answered.getOrDefault(each, 0) >= 20);
@@ -55,87 +49,58 @@ public final class ModelTest {
         check.end();
     }
 
-    private static void oneRun(int run, List<Method> face, Map<String, Integer> answered) throws Exception {
-        LeechClub x = new LeechClub();
-        Model model = new Model();
-        StringBuilder calls = new StringBuilder();
-        int left = 512;
+    private static void oneRun(Both both, Map<String, Integer> answered) {
+        List<String> names = List.copyOf(Both.FACE.keySet());
         for (int s = 0; s < 4 && random(6) > 0; s++) {
-            if (!same(run, x, model, method(face, "slate"), new int[] {s, Math.min(s, 2), 4}, calls, answered)) {
-                return;
-            }
-            left--;
+            made(both, answered, "slate", s, Math.min(s, 2), 4);
         }
         boolean isFirst = true;
-        while (left > 0) {
-            boolean isText = isFirst || random(160) == 0;
-            isFirst = false;
-            if (isText) {
-                if (random(12) > 0 && !same(run, x, model, method(face, "erase"), new int[0], calls, answered)) {
-                    return;
-                }
-                left--;
-                String text = random(8) > 0 ? faultless() : text();
-                for (int i = 0; i < text.length() && left > 4; i++, left--) {
-                    if (!same(run, x, model, method(face, "write"), new int[] {text.charAt(i)}, calls, answered)) {
-                        return;
-                    }
-                }
-                for (String name : new String[] {"fault", random(6) == 0 ? "fault" : "club", "count"}) {
-                    int[] a = name.equals("count") ? new int[] {random(11)} : new int[0];
-                    if (!same(run, x, model, method(face, name), a, calls, answered)) {
-                        return;
-                    }
-                    left--;
-                }
+        while (both.left() > 0 && !both.differs()) {
+            if (isFirst || random(160) == 0) {
+                tell(both, answered);
             }
-            Method m = face.get(random(face.size()));
-            if ("most drop forget erase write club back slate".contains(m.getName()) && random(5) > 0) {
+            isFirst = false;
+            String name = names.get(random(names.size()));
+            if (RARE.contains(name) && random(5) > 0) {
                 continue;
             }
-            if (!same(run, x, model, m, arguments(m), calls, answered)) {
-                return;
-            }
-            left--;
+            made(both, answered, name, arguments(name));
         }
     }
 
-    private static Method method(List<Method> face, String name) {
-        return face.stream().filter(m -> m.getName().equals(name)).findFirst().orElseThrow();
+    private static void tell(Both both, Map<String, Integer> answered) {
+        if (random(12) > 0) {
+            made(both, answered, "erase");
+        }
+        String text = random(8) > 0 ? faultless() : text();
+        for (int i = 0; i < text.length(); i++) {
+            made(both, answered, "write", text.charAt(i));
+        }
+        made(both, answered, "fault");
+        made(both, answered, random(6) == 0 ? "fault" : "club");
+        made(both, answered, "count", random(11));
     }
 
-    private static boolean same(int run, LeechClub x, Model model, Method m, int[] a, StringBuilder calls,
-            Map<String, Integer> answered) throws Exception {
-        Object[] boxed = new Object[a.length];
+    private static void made(Both both, Map<String, Integer> answered, String name, int... a) {
+        if (both.left() > 0 && !both.differs()) {
+            int due = both.call(name, a);
+            answered.merge(name + (due > -2 ? "" : " " + due), 1, Integer::sum);
+        }
+    }
+
+    private static int[] arguments(String name) {
+        int[] a = new int[Both.FACE.get(name).getParameterCount()];
         for (int i = 0; i < a.length; i++) {
-            boxed[i] = a[i];
+            a[i] = argument(name, i);
         }
-        String call = m.getName() + java.util.Arrays.toString(a);
-        calls.append(call).append(' ');
-        int got = (Integer) m.invoke(x, boxed);
-        int want = model.call(m.getName(), a);
-        answered.merge(m.getName() + (want > -2 ? "" : " " + want), 1, Integer::sum);
-        check.due("run " + run + ": " + call, got, want);
-        if (got != want) {
-            wrongRuns++;
-            System.out.println(calls);
-        }
-        return got == want;
-    }
-
-    private static int[] arguments(Method m) {
-        int[] a = new int[m.getParameterCount()];
-        for (int i = 0; i < a.length; i++) {
-            a[i] = argument(m.getName(), i);
-        }
-        boolean isSorted = m.getName().equals("slate") || m.getName().equals("chalk") || m.getName().equals("show");
+        boolean isSorted = name.equals("slate") || name.equals("chalk") || name.equals("show");
         if (isSorted && random(5) > 0) {
             a[1] = a[0] == 3 ? 2 : a[0];
         }
-        if (m.getName().equals("reckon") && random(5) > 0) {
+        if (name.equals("reckon") && random(5) > 0) {
             a[0] = 2 + random(2);
         }
-        if (m.getName().equals("chalk") && a[1] == 2 && random(8) > 0) {
+        if (name.equals("chalk") && a[1] == 2 && random(8) > 0) {
             a[3] = random(4) == 0 ? random(2000001) - 1000000 : random(25) - 12;
             a[4] = random(4) == 0 ? 1 + random(1000000) : 1 + random(24);
         }

@@ -18,7 +18,7 @@ public final class TextTest {
     }
 
     private static void aNewObject() {
-        LeechClub x = new LeechClub();
+        CountedClub x = new CountedClub();
         for (int what = 0; what <= 10; what++) {
             check.due("new: count(" + what + ")", x.count(what), 0);
         }
@@ -32,31 +32,31 @@ public final class TextTest {
     }
 
     private static void write() {
-        LeechClub x = new LeechClub();
+        CountedClub x = new CountedClub();
         check.due("write(0)", x.write(0), 1);
         check.due("write(255)", x.write(255), 2);
-        check.refused(x, "write(256)", LeechClub.OUTSIDE, () -> x.write(256));
-        check.refused(x, "write(-1)", LeechClub.OUTSIDE, () -> x.write(-1));
+        check.unchanged(x, "write(256)", LeechClub.OUTSIDE, () -> x.write(256));
+        check.unchanged(x, "write(-1)", LeechClub.OUTSIDE, () -> x.write(-1));
         for (int n = 3; n <= 200; n++) {
             check.due("write(32)", x.write(32), n);
         }
-        check.refused(x, "the 201st", LeechClub.FULL, () -> x.write(32));
-        check.refused(x, "write(256) when full", LeechClub.OUTSIDE, () -> x.write(256));
+        check.unchanged(x, "the 201st", LeechClub.FULL, () -> x.write(32));
+        check.unchanged(x, "write(256) when full", LeechClub.OUTSIDE, () -> x.write(256));
     }
 
     private static void erase() {
-        LeechClub x = new LeechClub();
+        CountedClub x = new CountedClub();
         check.due("erase of nothing", x.erase(), 0);
-        Check.tell(x, "fact;");
+        x.tell("fact;");
         check.due("erase", x.erase(), 5);
         check.due("count(10)", x.count(10), 0);
-        Check.tell(x, "fact");
+        x.tell("fact");
         check.due("fault behind erase", x.fault(), LeechClub.NONE);
     }
 
     private static void fault(String text, int want) {
-        LeechClub x = new LeechClub();
-        Check.tell(x, text);
+        CountedClub x = new CountedClub();
+        x.tell(text);
         check.due("fault of '" + text + "'", x.fault(), want);
         check.due("fault of '" + text + "' again", x.fault(), want);
         check.due("letters behind fault", x.count(10), text.length());
@@ -159,16 +159,16 @@ public final class TextTest {
         fault(nineteen + "club  ", LeechClub.NONE);
         fault(nineteen + "club;club", 99);
         fault(nineteen + "club;", 99);
-        LeechClub x = Check.clubOf(nineteen + "fact");
+        CountedClub x = CountedClub.of(nineteen + "fact");
         check.due("a fact behind nineteen", x.count(0), 1);
     }
 
     private static void earlierTexts() {
-        LeechClub x = Check.clubOf("fact;fact a;member b;common");
-        Check.tell(x, "fact b;on 0 0;on 0 1");
+        CountedClub x = CountedClub.of("fact;fact a;member b;common");
+        x.tell("fact b;on 0 0;on 0 1");
         check.due("fault of a later text", x.fault(), 19);
         x.erase();
-        Check.tell(x, "fact b;member ac;on 0 0;member;on 0 1");
+        x.tell("fact b;member ac;on 0 0;member;on 0 1");
         check.due("club of a later text", x.club(), 5);
         check.due("letters behind club", x.count(10), 0);
         check.due("facts", x.count(0), 3);
@@ -176,23 +176,23 @@ public final class TextTest {
         check.due("the first member", x.member(0, 0), 3);
         check.due("the second member", x.member(1, 0), 7);
         check.due("the leech, as the last clause tells", x.leech(0, 1), 1);
-        Check.tell(x, "fact;fact;fact;fact;fact;fact;fact;fact;fact;fact");
+        x.tell("fact;fact;fact;fact;fact;fact;fact;fact;fact;fact");
         check.due("a thirteenth in a later text", x.fault(), 45);
     }
 
     private static void clubIsRefused() {
-        LeechClub x = Check.clubOf("fact;member;muff");
+        CountedClub x = CountedClub.of("fact;member;muff");
         x.put(0, 0);
         x.keep(0);
-        Check.tell(x, "fact;club;fact b");
-        check.refused(x, "club with a fault", LeechClub.NOT, x::club);
+        x.tell("fact;club;fact b");
+        check.unchanged(x, "club with a fault", LeechClub.NOT, x::club);
         check.due("letters yet", x.count(10), 16);
         check.due("undo yet", x.undo(), 0);
         check.due("back yet", x.back(0), 0);
     }
 
     private static void clubBeginsAnew() {
-        LeechClub x = Check.clubOf("fact;fact;member ab;member;muff;common;on 0 0");
+        CountedClub x = CountedClub.of("fact;fact;member ab;member;muff;common;on 0 0");
         x.minute(2);
         x.put(0, LeechClub.NONE);
         x.salt(0);
@@ -205,7 +205,7 @@ public final class TextTest {
         x.seen(0, 1, 0, 1);
         x.slate(2, 0, 3);
         x.chalk(2, 0, 1, 77, 0);
-        Check.tell(x, "fact ab");
+        x.tell("fact ab");
         check.due("club", x.club(), 1);
         check.due("minute", x.count(3), 0);
         check.due("basin", x.count(4), 0);
@@ -222,7 +222,7 @@ public final class TextTest {
         check.due("leech 1 is off", x.leech(1, 1), LeechClub.NONE);
         check.due("leech 0 has", x.leech(0, 2), 0);
         check.due("leech 1 has", x.leech(1, 2), 0);
-        Check.tell(x, "club;member");
+        x.tell("club;member");
         x.minute(3);
         x.put(0, LeechClub.NONE);
         check.due("something is salted", x.salt(0), 3);
