@@ -1,8 +1,15 @@
+import java.io.IOException;
+import java.io.UncheckedIOException;
+import java.nio.file.Files;
+import java.nio.file.Path;
 import java.util.List;
 import java.util.function.IntSupplier;
 
 /** What the tests share: counting wrong answers, and whether a call changed anything. */
 final class Check {
+    /** Its words, one blank between; empty where the tests are run without it. */
+    private static final String DOCUMENT = document();
+
     private int looked = 0;
     private int wrong = 0;
     private final String name;
@@ -12,9 +19,12 @@ final class Check {
         this.name = name;
     }
 
-    /** The sentence of the document that is looked at from now on, told with each wrong answer. */
-    void says(String words) {
-        sentence = " [" + words + "]";
+    /** The sentence of the document, in pieces, that is looked at from now on; it is told with each wrong answer. */
+    void says(String... pieces) {
+        sentence = " [" + String.join(" .. ", pieces) + "]";
+        for (String piece : pieces) {
+            holds("the document says: " + piece, DOCUMENT.isEmpty() || DOCUMENT.contains(piece));
+        }
     }
 
     void due(String call, long got, long want) {
@@ -40,6 +50,15 @@ final class Check {
         due(call, answer.getAsInt(), want);
         holds(call + " is a call of the club that is looked at", x.calls() > calls);
         holds(call + " changes nothing", before.equals(Looks.at(x)));
+    }
+
+    private static String document() {
+        Path path = Path.of("../shared/DOC.md");
+        try {
+            return Files.exists(path) ? Files.readString(path).replace("`", "").replaceAll("\\s+", " ") : "";
+        } catch (IOException e) {
+            throw new UncheckedIOException(e);
+        }
     }
 
     /** Ends the program: with 1 if an answer was wrong. */

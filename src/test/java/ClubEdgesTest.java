@@ -66,7 +66,7 @@ public final class ClubEdgesTest {
     }
 
     private static void clear() {
-        check.says("CLEAR is how many FACTS a MEMBER does not KNOW of all that there are; in lowest terms");
+        check.says("CLEAR is how many FACTS a MEMBER does not KNOW of all that there are", "in lowest terms");
         int[] above = {1, 11, 5, 3, 2, 7, 1, 5, 1, 1, 1, 1, 0};
         int[] below = {1, 12, 6, 4, 3, 12, 2, 12, 3, 4, 6, 12, 1};
         CountedClub x = CountedClub.of(Clubs.TWELVE_FACTS + ";member");
@@ -347,7 +347,8 @@ public final class ClubEdgesTest {
             for (int kind = 0; kind <= 5; kind++) {
                 int leech = l;
                 int taken = kind;
-                check.unchanged(x, "as(" + l + ", " + kind + ")", isSuch[l][kind] ? HAS_ROOM[l] : LeechClub.NOT, () -> x.as(leech, taken));
+                int due = isSuch[l][kind] ? HAS_ROOM[l] : LeechClub.NOT;
+                check.unchanged(x, "as(" + l + ", " + kind + ")", due, () -> x.as(leech, taken));
             }
         }
         check.unchanged(x, "as(0, 6)", LeechClub.OUTSIDE, () -> x.as(0, 6));
@@ -402,7 +403,8 @@ public final class ClubEdgesTest {
     }
 
     private static void read() {
-        check.says("READ: a MEMBER KNOWS ALL of a FACT, too; how many FACTS he did not KNOW of these. UNKNOWN; NOT: he KNOWS it");
+        check.says("READ: a MEMBER KNOWS ALL of a FACT, too",
+                "how many FACTS he did not KNOW of these. UNKNOWN; NOT: he KNOWS it");
         CountedClub x = CountedClub.of(Clubs.CHAIN + ";member;member k;member l");
         check.due("all twelve", x.read(0, 11), 12);
         check.due("he KNOWS", x.member(0, 0), 4095);
@@ -498,7 +500,8 @@ public final class ClubEdgesTest {
     }
 
     private static void kept() {
-        check.says("All MEMBERS, LEECHES, THE BASIN, the MINUTE are kept (k 0, 1): the MINUTE; They are as they were kept, nothing can be undone");
+        check.says("All MEMBERS, LEECHES, THE BASIN, the MINUTE are kept (k 0, 1): the MINUTE",
+                "They are as they were kept, nothing can be undone");
         CountedClub x = CountedClub.of(ALL_KNOWN + "bishop;on 0 0");
         check.unchanged(x, "keep(2)", LeechClub.UNKNOWN, () -> x.keep(2));
         check.unchanged(x, "keep(-1)", LeechClub.UNKNOWN, () -> x.keep(-1));
@@ -579,7 +582,7 @@ public final class ClubEdgesTest {
     }
 
     private static void counts() {
-        check.says("count(what): 0 .. 10. OUTSIDE");
+        check.says("10 letters of THE TEXT. OUTSIDE");
         CountedClub x = Clubs.full();
         x.put(4, 2);
         x.minute(12);

@@ -5,8 +5,9 @@ public final class EndsTest {
     private static final int UNKNOWN = LeechClub.UNKNOWN, OUTSIDE = LeechClub.OUTSIDE, INDEX = LeechClub.INDEX;
 
     public static void main(String[] args) {
+        check.says("UNKNOWN (no such FACT, bits of such, MEMBER, LEECH, SLATE), OUTSIDE (another number is not as told)",
+                "INDEX -14 (a place that there is not, or beyond an end, or fewer than none)", "SIZE -16 (fewer than none)");
         for (int end : ENDS) {
-            check.says("an argument of " + end);
             told(Clubs.rich(), end);
             told(withSlates(Clubs.full()), end);
             done(Clubs.rich(), end);
@@ -28,127 +29,127 @@ public final class EndsTest {
     }
 
     private static void told(CountedClub x, int end) {
-        check.unchanged(x, "write", OUTSIDE, () -> x.write(end));
-        check.unchanged(x, "fact, fact", UNKNOWN, () -> x.fact(end, 0));
-        check.unchanged(x, "fact, what", OUTSIDE, () -> x.fact(0, end));
-        check.unchanged(x, "member, member", UNKNOWN, () -> x.member(end, 0));
-        check.unchanged(x, "member, what", OUTSIDE, () -> x.member(0, end));
-        check.unchanged(x, "leech, leech", UNKNOWN, () -> x.leech(end, 0));
-        check.unchanged(x, "leech, what", OUTSIDE, () -> x.leech(0, end));
-        check.unchanged(x, "as, leech", UNKNOWN, () -> x.as(end, 0));
-        check.unchanged(x, "as, kind", OUTSIDE, () -> x.as(0, end));
-        check.unchanged(x, "count", OUTSIDE, () -> x.count(end));
+        check.unchanged(x, "write: " + end, OUTSIDE, () -> x.write(end));
+        check.unchanged(x, "fact, fact: " + end, UNKNOWN, () -> x.fact(end, 0));
+        check.unchanged(x, "fact, what: " + end, OUTSIDE, () -> x.fact(0, end));
+        check.unchanged(x, "member, member: " + end, UNKNOWN, () -> x.member(end, 0));
+        check.unchanged(x, "member, what: " + end, OUTSIDE, () -> x.member(0, end));
+        check.unchanged(x, "leech, leech: " + end, UNKNOWN, () -> x.leech(end, 0));
+        check.unchanged(x, "leech, what: " + end, OUTSIDE, () -> x.leech(0, end));
+        check.unchanged(x, "as, leech: " + end, UNKNOWN, () -> x.as(end, 0));
+        check.unchanged(x, "as, kind: " + end, OUTSIDE, () -> x.as(0, end));
+        check.unchanged(x, "count: " + end, OUTSIDE, () -> x.count(end));
     }
 
     private static void done(CountedClub x, int end) {
         x.minute(1);
-        check.unchanged(x, "minute", OUTSIDE, () -> x.minute(end));
-        check.unchanged(x, "put, leech", UNKNOWN, () -> x.put(end, 0));
-        check.unchanged(x, "put, leech, off", UNKNOWN, () -> x.put(end, LeechClub.NONE));
-        check.unchanged(x, "put, member", UNKNOWN, () -> x.put(0, end));
-        check.unchanged(x, "salt", UNKNOWN, () -> x.salt(end));
-        check.unchanged(x, "read, member", UNKNOWN, () -> x.read(end, 0));
-        check.unchanged(x, "read, fact", UNKNOWN, () -> x.read(0, end));
-        check.unchanged(x, "keep", UNKNOWN, () -> x.keep(end));
-        check.unchanged(x, "back", UNKNOWN, () -> x.back(end));
+        check.unchanged(x, "minute: " + end, OUTSIDE, () -> x.minute(end));
+        check.unchanged(x, "put, leech: " + end, UNKNOWN, () -> x.put(end, 0));
+        check.unchanged(x, "put, leech, off: " + end, UNKNOWN, () -> x.put(end, LeechClub.NONE));
+        check.unchanged(x, "put, member: " + end, UNKNOWN, () -> x.put(0, end));
+        check.unchanged(x, "salt: " + end, UNKNOWN, () -> x.salt(end));
+        check.unchanged(x, "read, member: " + end, UNKNOWN, () -> x.read(end, 0));
+        check.unchanged(x, "read, fact: " + end, UNKNOWN, () -> x.read(0, end));
+        check.unchanged(x, "keep: " + end, UNKNOWN, () -> x.keep(end));
+        check.unchanged(x, "back: " + end, UNKNOWN, () -> x.back(end));
     }
 
     private static void foretold(CountedClub x, int end) {
-        check.unchanged(x, "ahead, member", UNKNOWN, () -> x.ahead(end, 0));
-        check.unchanged(x, "ahead, n", OUTSIDE, () -> x.ahead(0, end));
-        check.unchanged(x, "gone, member", UNKNOWN, () -> x.gone(end, 0));
-        check.unchanged(x, "gone, fact", UNKNOWN, () -> x.gone(0, end));
-        check.unchanged(x, "soonest, member", UNKNOWN, () -> x.soonest(end, 0, 0, 0));
-        check.unchanged(x, "soonest, lose", UNKNOWN, () -> x.soonest(0, end, 0, 0));
-        check.unchanged(x, "soonest, keep", UNKNOWN, () -> x.soonest(0, 0, end, 0));
-        check.unchanged(x, "soonest, what", OUTSIDE, () -> x.soonest(0, 0, 0, end));
-        check.unchanged(x, "order, member", UNKNOWN, () -> x.order(end, 0, 0));
-        check.unchanged(x, "order, lose", UNKNOWN, () -> x.order(0, end, 0));
-        check.unchanged(x, "order, keep", UNKNOWN, () -> x.order(0, 0, end));
-        check.unchanged(x, "most, c", OUTSIDE, () -> x.most(end, 0, 0));
-        check.unchanged(x, "most, n", OUTSIDE, () -> x.most(0, end, LeechClub.NONE));
-        check.unchanged(x, "most, leech", UNKNOWN, () -> x.most(0, 0, end));
-        check.unchanged(x, "sound, fact", UNKNOWN, () -> x.sound(end, 0, 0));
-        check.unchanged(x, "sound, q", OUTSIDE, () -> x.sound(0, end, 0));
-        check.unchanged(x, "sound, part", OUTSIDE, () -> x.sound(0, 0, end));
+        check.unchanged(x, "ahead, member: " + end, UNKNOWN, () -> x.ahead(end, 0));
+        check.unchanged(x, "ahead, n: " + end, OUTSIDE, () -> x.ahead(0, end));
+        check.unchanged(x, "gone, member: " + end, UNKNOWN, () -> x.gone(end, 0));
+        check.unchanged(x, "gone, fact: " + end, UNKNOWN, () -> x.gone(0, end));
+        check.unchanged(x, "soonest, member: " + end, UNKNOWN, () -> x.soonest(end, 0, 0, 0));
+        check.unchanged(x, "soonest, lose: " + end, UNKNOWN, () -> x.soonest(0, end, 0, 0));
+        check.unchanged(x, "soonest, keep: " + end, UNKNOWN, () -> x.soonest(0, 0, end, 0));
+        check.unchanged(x, "soonest, what: " + end, OUTSIDE, () -> x.soonest(0, 0, 0, end));
+        check.unchanged(x, "order, member: " + end, UNKNOWN, () -> x.order(end, 0, 0));
+        check.unchanged(x, "order, lose: " + end, UNKNOWN, () -> x.order(0, end, 0));
+        check.unchanged(x, "order, keep: " + end, UNKNOWN, () -> x.order(0, 0, end));
+        check.unchanged(x, "most, c: " + end, OUTSIDE, () -> x.most(end, 0, 0));
+        check.unchanged(x, "most, n: " + end, OUTSIDE, () -> x.most(0, end, LeechClub.NONE));
+        check.unchanged(x, "most, leech: " + end, UNKNOWN, () -> x.most(0, 0, end));
+        check.unchanged(x, "sound, fact: " + end, UNKNOWN, () -> x.sound(end, 0, 0));
+        check.unchanged(x, "sound, q: " + end, OUTSIDE, () -> x.sound(0, end, 0));
+        check.unchanged(x, "sound, part: " + end, OUTSIDE, () -> x.sound(0, 0, end));
     }
 
     private static void seen(CountedClub x, int end) {
-        check.unchanged(x, "seen, member", UNKNOWN, () -> x.seen(end, 1, 0, 0));
-        check.unchanged(x, "seen, n", OUTSIDE, () -> x.seen(0, end, 0, 0));
-        check.unchanged(x, "seen, fact", UNKNOWN, () -> x.seen(0, 1, end, 0));
-        check.unchanged(x, "seen, knew", OUTSIDE, () -> x.seen(0, 1, 0, end));
-        check.unchanged(x, "ask, member", UNKNOWN, () -> x.ask(end, 1));
-        check.unchanged(x, "ask, n", OUTSIDE, () -> x.ask(0, end));
+        check.unchanged(x, "seen, member: " + end, UNKNOWN, () -> x.seen(end, 1, 0, 0));
+        check.unchanged(x, "seen, n: " + end, OUTSIDE, () -> x.seen(0, end, 0, 0));
+        check.unchanged(x, "seen, fact: " + end, UNKNOWN, () -> x.seen(0, 1, end, 0));
+        check.unchanged(x, "seen, knew: " + end, OUTSIDE, () -> x.seen(0, 1, 0, end));
+        check.unchanged(x, "ask, member: " + end, UNKNOWN, () -> x.ask(end, 1));
+        check.unchanged(x, "ask, n: " + end, OUTSIDE, () -> x.ask(0, end));
     }
 
     private static void slates(CountedClub x, int end) {
-        check.unchanged(x, "slate, slate", UNKNOWN, () -> x.slate(end, 0, 1));
-        check.unchanged(x, "slate, sort", OUTSIDE, () -> x.slate(0, end, 1));
-        check.unchanged(x, "slate, n", end < 0 ? LeechClub.SIZE : OUTSIDE, () -> x.slate(0, 0, end));
-        check.unchanged(x, "chalk, slate", UNKNOWN, () -> x.chalk(end, 0, 0, 1, 1));
-        check.unchanged(x, "chalk, sort", OUTSIDE, () -> x.chalk(0, end, 0, 1, 1));
-        check.unchanged(x, "chalk, above", OUTSIDE, () -> x.chalk(2, 2, 0, end, 1));
-        check.unchanged(x, "chalk, below", OUTSIDE, () -> x.chalk(2, 2, 0, 1, end));
-        check.unchanged(x, "show, slate", UNKNOWN, () -> x.show(end, 0, 0, 0));
-        check.unchanged(x, "show, sort", OUTSIDE, () -> x.show(0, end, 0, 0));
+        check.unchanged(x, "slate, slate: " + end, UNKNOWN, () -> x.slate(end, 0, 1));
+        check.unchanged(x, "slate, sort: " + end, OUTSIDE, () -> x.slate(0, end, 1));
+        check.unchanged(x, "slate, n: " + end, end < 0 ? LeechClub.SIZE : OUTSIDE, () -> x.slate(0, 0, end));
+        check.unchanged(x, "chalk, slate: " + end, UNKNOWN, () -> x.chalk(end, 0, 0, 1, 1));
+        check.unchanged(x, "chalk, sort: " + end, OUTSIDE, () -> x.chalk(0, end, 0, 1, 1));
+        check.unchanged(x, "chalk, above: " + end, OUTSIDE, () -> x.chalk(2, 2, 0, end, 1));
+        check.unchanged(x, "chalk, below: " + end, OUTSIDE, () -> x.chalk(2, 2, 0, 1, end));
+        check.unchanged(x, "show, slate: " + end, UNKNOWN, () -> x.show(end, 0, 0, 0));
+        check.unchanged(x, "show, sort: " + end, OUTSIDE, () -> x.show(0, end, 0, 0));
         for (int s = 0; s < 3; s++) {
             int slate = s;
-            check.unchanged(x, "chalk, i", INDEX, () -> x.chalk(slate, slate, end, 1, 1));
-            check.unchanged(x, "show, i", INDEX, () -> x.show(slate, slate, end, 0));
-            check.unchanged(x, "show, what", OUTSIDE, () -> x.show(slate, slate, 0, end));
-            check.unchanged(x, "copy, i", INDEX, () -> x.copy(slate, end, slate, 0, 1));
-            check.unchanged(x, "copy, i, none", INDEX, () -> x.copy(slate, end, slate, 0, 0));
-            check.unchanged(x, "copy, j", INDEX, () -> x.copy(slate, 0, slate, end, 1));
-            check.unchanged(x, "copy, j, none", INDEX, () -> x.copy(slate, 0, slate, end, 0));
-            check.unchanged(x, "copy, n", INDEX, () -> x.copy(slate, 0, slate, 0, end));
-            check.unchanged(x, "copy, n, from 1", INDEX, () -> x.copy(slate, 1, slate, 1, end));
-            check.unchanged(x, "copy, i, j, n", INDEX, () -> x.copy(slate, end, slate, end, end));
+            check.unchanged(x, "chalk, i: " + end, INDEX, () -> x.chalk(slate, slate, end, 1, 1));
+            check.unchanged(x, "show, i: " + end, INDEX, () -> x.show(slate, slate, end, 0));
+            check.unchanged(x, "show, what: " + end, OUTSIDE, () -> x.show(slate, slate, 0, end));
+            check.unchanged(x, "copy, i: " + end, INDEX, () -> x.copy(slate, end, slate, 0, 1));
+            check.unchanged(x, "copy, i, none: " + end, INDEX, () -> x.copy(slate, end, slate, 0, 0));
+            check.unchanged(x, "copy, j: " + end, INDEX, () -> x.copy(slate, 0, slate, end, 1));
+            check.unchanged(x, "copy, j, none: " + end, INDEX, () -> x.copy(slate, 0, slate, end, 0));
+            check.unchanged(x, "copy, n: " + end, INDEX, () -> x.copy(slate, 0, slate, 0, end));
+            check.unchanged(x, "copy, n, from 1: " + end, INDEX, () -> x.copy(slate, 1, slate, 1, end));
+            check.unchanged(x, "copy, i, j, n: " + end, INDEX, () -> x.copy(slate, end, slate, end, end));
         }
-        check.unchanged(x, "reckon, slate", UNKNOWN, () -> x.reckon(end, 0, 0, 0, 0));
-        check.unchanged(x, "reckon, i", INDEX, () -> x.reckon(2, end, 0, 0, 0));
-        check.unchanged(x, "reckon, j", INDEX, () -> x.reckon(2, 0, end, 0, 0));
-        check.unchanged(x, "reckon, k", INDEX, () -> x.reckon(2, 0, 0, end, 0));
-        check.unchanged(x, "reckon, how", OUTSIDE, () -> x.reckon(2, 0, 0, 0, end));
-        check.unchanged(x, "copy, from", UNKNOWN, () -> x.copy(end, 0, 0, 0, 1));
-        check.unchanged(x, "copy, to", UNKNOWN, () -> x.copy(0, 0, end, 0, 1));
-        check.unchanged(x, "drop", UNKNOWN, () -> x.drop(end));
+        check.unchanged(x, "reckon, slate: " + end, UNKNOWN, () -> x.reckon(end, 0, 0, 0, 0));
+        check.unchanged(x, "reckon, i: " + end, INDEX, () -> x.reckon(2, end, 0, 0, 0));
+        check.unchanged(x, "reckon, j: " + end, INDEX, () -> x.reckon(2, 0, end, 0, 0));
+        check.unchanged(x, "reckon, k: " + end, INDEX, () -> x.reckon(2, 0, 0, end, 0));
+        check.unchanged(x, "reckon, how: " + end, OUTSIDE, () -> x.reckon(2, 0, 0, 0, end));
+        check.unchanged(x, "copy, from: " + end, UNKNOWN, () -> x.copy(end, 0, 0, 0, 1));
+        check.unchanged(x, "copy, to: " + end, UNKNOWN, () -> x.copy(0, 0, end, 0, 1));
+        check.unchanged(x, "drop: " + end, UNKNOWN, () -> x.drop(end));
     }
 
     /** Where there is nothing, every argument an end: the first refusal of each call that has one. */
     private static void ofNothing(int end) {
         CountedClub x = new CountedClub();
-        check.unchanged(x, "write", OUTSIDE, () -> x.write(end));
-        check.unchanged(x, "fact", UNKNOWN, () -> x.fact(end, end));
-        check.unchanged(x, "member", UNKNOWN, () -> x.member(end, end));
-        check.unchanged(x, "leech", UNKNOWN, () -> x.leech(end, end));
-        check.unchanged(x, "as", UNKNOWN, () -> x.as(end, end));
-        check.unchanged(x, "minute", OUTSIDE, () -> x.minute(end));
-        check.unchanged(x, "put", UNKNOWN, () -> x.put(end, end));
-        check.unchanged(x, "salt", UNKNOWN, () -> x.salt(end));
-        check.unchanged(x, "read", UNKNOWN, () -> x.read(end, end));
-        check.unchanged(x, "keep", UNKNOWN, () -> x.keep(end));
-        check.unchanged(x, "back", UNKNOWN, () -> x.back(end));
-        check.unchanged(x, "ahead", UNKNOWN, () -> x.ahead(end, end));
-        check.unchanged(x, "gone", UNKNOWN, () -> x.gone(end, end));
-        check.unchanged(x, "soonest", UNKNOWN, () -> x.soonest(end, end, end, end));
-        check.unchanged(x, "order", UNKNOWN, () -> x.order(end, end, end));
-        check.unchanged(x, "most", UNKNOWN, () -> x.most(end, end, end));
-        check.unchanged(x, "sound", UNKNOWN, () -> x.sound(end, end, end));
-        check.unchanged(x, "seen", UNKNOWN, () -> x.seen(end, end, end, end));
-        check.unchanged(x, "ask", UNKNOWN, () -> x.ask(end, end));
-        check.unchanged(x, "slate", UNKNOWN, () -> x.slate(end, end, end));
-        check.unchanged(x, "chalk", UNKNOWN, () -> x.chalk(end, end, end, end, end));
-        check.unchanged(x, "show", UNKNOWN, () -> x.show(end, end, end, end));
-        check.unchanged(x, "reckon", UNKNOWN, () -> x.reckon(end, end, end, end, end));
-        check.unchanged(x, "copy", UNKNOWN, () -> x.copy(end, end, end, end, end));
-        check.unchanged(x, "drop", UNKNOWN, () -> x.drop(end));
-        check.unchanged(x, "count", OUTSIDE, () -> x.count(end));
+        check.unchanged(x, "write: " + end, OUTSIDE, () -> x.write(end));
+        check.unchanged(x, "fact: " + end, UNKNOWN, () -> x.fact(end, end));
+        check.unchanged(x, "member: " + end, UNKNOWN, () -> x.member(end, end));
+        check.unchanged(x, "leech: " + end, UNKNOWN, () -> x.leech(end, end));
+        check.unchanged(x, "as: " + end, UNKNOWN, () -> x.as(end, end));
+        check.unchanged(x, "minute: " + end, OUTSIDE, () -> x.minute(end));
+        check.unchanged(x, "put: " + end, UNKNOWN, () -> x.put(end, end));
+        check.unchanged(x, "salt: " + end, UNKNOWN, () -> x.salt(end));
+        check.unchanged(x, "read: " + end, UNKNOWN, () -> x.read(end, end));
+        check.unchanged(x, "keep: " + end, UNKNOWN, () -> x.keep(end));
+        check.unchanged(x, "back: " + end, UNKNOWN, () -> x.back(end));
+        check.unchanged(x, "ahead: " + end, UNKNOWN, () -> x.ahead(end, end));
+        check.unchanged(x, "gone: " + end, UNKNOWN, () -> x.gone(end, end));
+        check.unchanged(x, "soonest: " + end, UNKNOWN, () -> x.soonest(end, end, end, end));
+        check.unchanged(x, "order: " + end, UNKNOWN, () -> x.order(end, end, end));
+        check.unchanged(x, "most: " + end, UNKNOWN, () -> x.most(end, end, end));
+        check.unchanged(x, "sound: " + end, UNKNOWN, () -> x.sound(end, end, end));
+        check.unchanged(x, "seen: " + end, UNKNOWN, () -> x.seen(end, end, end, end));
+        check.unchanged(x, "ask: " + end, UNKNOWN, () -> x.ask(end, end));
+        check.unchanged(x, "slate: " + end, UNKNOWN, () -> x.slate(end, end, end));
+        check.unchanged(x, "chalk: " + end, UNKNOWN, () -> x.chalk(end, end, end, end, end));
+        check.unchanged(x, "show: " + end, UNKNOWN, () -> x.show(end, end, end, end));
+        check.unchanged(x, "reckon: " + end, UNKNOWN, () -> x.reckon(end, end, end, end, end));
+        check.unchanged(x, "copy: " + end, UNKNOWN, () -> x.copy(end, end, end, end, end));
+        check.unchanged(x, "drop: " + end, UNKNOWN, () -> x.drop(end));
+        check.unchanged(x, "count: " + end, OUTSIDE, () -> x.count(end));
         CountedClub full = Clubs.full();
-        check.unchanged(full, "soonest, all but the member", UNKNOWN, () -> full.soonest(0, end, end, end));
-        check.unchanged(full, "seen, all but the member", UNKNOWN, () -> full.seen(0, end, end, end));
-        check.unchanged(full, "most, all but the leech", OUTSIDE, () -> full.most(end, end, 0));
-        check.unchanged(full, "sound, all but the fact", OUTSIDE, () -> full.sound(0, end, end));
+        check.unchanged(full, "soonest, all but the member: " + end, UNKNOWN, () -> full.soonest(0, end, end, end));
+        check.unchanged(full, "seen, all but the member: " + end, UNKNOWN, () -> full.seen(0, end, end, end));
+        check.unchanged(full, "most, all but the leech: " + end, OUTSIDE, () -> full.most(end, end, 0));
+        check.unchanged(full, "sound, all but the fact: " + end, OUTSIDE, () -> full.sound(0, end, end));
     }
 
     /** An int may be any, and so may what a long is told of. */

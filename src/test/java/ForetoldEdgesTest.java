@@ -127,7 +127,8 @@ public final class ForetoldEdgesTest {
     }
 
     private static void soonestOfAll() {
-        check.says("SOONEST for a MEMBER, a set to lose, a set to keep (bits of FACTS): in how many MINUTES (0 .. 20), as few as can be");
+        check.says("SOONEST for a MEMBER, a set to lose, a set to keep (bits of FACTS)",
+                "in how many MINUTES (0 .. 20), as few as can be");
         CountedClub x = CountedClub.of(ALL_KNOWN + "greedy;on 0 0");
         soonest(x, 0, 0, 0, 0);
         soonest(x, 0, 4095, 0, 0);
@@ -173,7 +174,7 @@ public final class ForetoldEdgesTest {
     }
 
     private static void soonestBits() {
-        check.says("UNKNOWN (no such FACT, bits of such, MEMBER)");
+        check.says("UNKNOWN (no such FACT, bits of such, MEMBER");
         CountedClub none = CountedClub.of("member");
         soonest(none, 0, 0, 0, 0);
         soonest(none, 1, 0, LeechClub.UNKNOWN, LeechClub.UNKNOWN);
@@ -200,7 +201,8 @@ public final class ForetoldEdgesTest {
 
     private static void orderOfNoneToThree() {
         check.says("ORDER for the same: a row of KINDS, 0 to 3 of them, of each a new LEECH ON him for one MINUTE, nobody else, "
-                + "one behind the other; (0: none is needed); none");
+                + "one behind the other",
+                "(0: none is needed); none");
         CountedClub x = CountedClub.of(ALL_KNOWN + "muff;on 0 0");
         order(x, 0, 0, 0);
         order(x, 0, 4095, 0);
@@ -223,7 +225,8 @@ public final class ForetoldEdgesTest {
     }
 
     private static void orderFirst() {
-        check.says("the fewest; of as few the first (KIND by KIND the lesser first): told as its figures, each KIND 1 more, the first one first");
+        check.says("the fewest; of as few the first (KIND by KIND the lesser first): told as its figures, "
+                + "each KIND 1 more, the first one first");
         CountedClub x = CountedClub.of(ALL_KNOWN + "muff");
         order(x, 3840, 255, 13);
         order(x, 3968, 127, 23);
@@ -245,7 +248,7 @@ public final class ForetoldEdgesTest {
     }
 
     private static void orderBits() {
-        check.says("UNKNOWN (no such FACT, bits of such, MEMBER)");
+        check.says("UNKNOWN (no such FACT, bits of such, MEMBER");
         CountedClub four = CountedClub.of("fact;fact;fact;fact;member");
         order(four, 15, 0, 0);
         order(four, 16, 0, LeechClub.UNKNOWN);
@@ -270,7 +273,7 @@ public final class ForetoldEdgesTest {
     }
 
     private static void mostByC() {
-        check.says("MOST for c (0 .. 12): no MEMBER KNOWS more than c FACTS; none");
+        check.says("MOST for c (0 .. 12)", "no MEMBER KNOWS more than c FACTS");
         CountedClub x = CountedClub.of(ALL_KNOWN + "member;muff");
         most(x, 12, 10, 12, NONE);
         most(x, 11, 1, 11, 0);
@@ -300,8 +303,8 @@ public final class ForetoldEdgesTest {
     }
 
     private static void mostOfTheFull() {
-        check.says("each LEECH that is off now being put ON a MEMBER, or left off; "
-                + "of several the first (LEECH by LEECH off first, then the lesser MEMBER)");
+        check.says("each LEECH that is off now being put ON a MEMBER, or left off",
+                "of several the first (LEECH by LEECH off first, then the lesser MEMBER)");
         CountedClub x = Clubs.full();
         most(x, 12, 1, 12, NONE, NONE, NONE, NONE, NONE);
         most(x, 11, 1, 12, NONE, NONE, NONE, 2, 3);
@@ -347,7 +350,8 @@ public final class ForetoldEdgesTest {
     }
 
     private static void soundByFifths() {
-        check.says("SOUND: each FACT is so by q of five (0 .. 5), by itself: the odds that ALL of a FACT are so; told in lowest terms");
+        check.says("SOUND: each FACT is so by q of five (0 .. 5), by itself: the odds that ALL of a FACT are so",
+                "told in lowest terms");
         int[] above = {0, 1, 4096, 531441, 16777216, 1};
         int[] below = {1, 244140625, 244140625, 244140625, 244140625, 1};
         CountedClub chain = CountedClub.of(Clubs.CHAIN);
@@ -370,7 +374,7 @@ public final class ForetoldEdgesTest {
     }
 
     private static void sixSeen() {
-        check.says("SEEN, 6 at most; SEEN is nothing: how many there were");
+        check.says("SEEN, 6 at most", "SEEN is nothing: how many there were");
         CountedClub x = Clubs.full();
         check.unchanged(x, "forget of nothing", 0, x::forget);
         for (int i = 1; i <= 6; i++) {
@@ -389,7 +393,7 @@ public final class ForetoldEdgesTest {
     }
 
     private static void seenBounds() {
-        check.says("for n MINUTES (1 .. 6): then he KNEW a FACT, or not; (knew 1, 0). UNKNOWN; OUTSIDE; FULL");
+        check.says("for n MINUTES (1 .. 6): then he KNEW a FACT, or not", "SEEN (knew 1, 0): how many. UNKNOWN; OUTSIDE; FULL");
         CountedClub x = Clubs.full();
         check.unchanged(x, "n 0", LeechClub.OUTSIDE, () -> x.seen(0, 0, 0, 0));
         check.unchanged(x, "n 7", LeechClub.OUTSIDE, () -> x.seen(0, 7, 0, 0));
@@ -434,7 +438,7 @@ public final class ForetoldEdgesTest {
     }
 
     private static void kindsOfMany() {
-        check.says("KINDS by which all that is SEEN would be so; (nothing is SEEN: all)");
+        check.says("KINDS (0 .. 4, by bits) by which all that is SEEN would be so");
         CountedClub x = CountedClub.of(ALL_KNOWN + "member;member a");
         check.unchanged(x, "kinds", 31, x::kinds);
         x.seen(0, 1, 11, 0);
@@ -462,7 +466,8 @@ public final class ForetoldEdgesTest {
     }
 
     private static void askParts() {
-        check.says("ASK: the FACT by which these KINDS are parted best: the greatest part that is alike is least; of like ones the least");
+        check.says("the FACT by which these KINDS are parted best",
+                "the greatest part that is alike is least; of like ones the least");
         CountedClub x = CountedClub.of(ALL_KNOWN + "muff;on 0 0");
         ask(x, 0, 0, 0, 0, 0, 0);
         x.seen(0, 1, 0, 1);

@@ -58,7 +58,7 @@ public final class SlateEdgesTest {
     }
 
     private static void noneToTenPlaces() {
-        check.says("of 0 to 10 places; OUTSIDE (SORT, n above 10); SIZE (fewer than none)");
+        check.says("of 0 to 10 places", "OUTSIDE (SORT, n above 10); SIZE");
         for (int sort = 0; sort < 3; sort++) {
             for (int n = 0; n <= 10; n++) {
                 int takenAs = sort;
@@ -88,7 +88,7 @@ public final class SlateEdgesTest {
     }
 
     private static void newRows() {
-        check.says("A SLATE is a new row of a SORT (0, PARTS of nothing)");
+        check.says("A SLATE is a new row of a SORT", "(0, PARTS of nothing)");
         for (int sort = 0; sort < 3; sort++) {
             int other = (sort + 1) % 3;
             CountedClub x = new CountedClub();
@@ -124,9 +124,9 @@ public final class SlateEdgesTest {
     }
 
     private static void longRests() {
-        check.says("a times 1000000000 and b more (longs); of longs likewise");
-        int[][] told = {{0, 0}, {0, 1000003}, {0, -1000003}, {0, -1}, {1, -1000000000}, {1, -1000000001}, {-1, 1000000001}, {1, 0}, {-1, 0},
-            {Integer.MAX_VALUE, Integer.MAX_VALUE}, {Integer.MAX_VALUE, Integer.MIN_VALUE}, {Integer.MIN_VALUE, Integer.MAX_VALUE},
+        check.says("a times 1000000000 and b more (longs)", "of longs likewise");
+        int[][] told = {{0, 0}, {0, 1000003}, {0, -1000003}, {0, -1}, {1, -1000000000}, {1, -1000000001},
+            {-1, 1000000001}, {1, 0}, {-1, 0}, {Integer.MAX_VALUE, Integer.MAX_VALUE}, {Integer.MAX_VALUE, Integer.MIN_VALUE}, {Integer.MIN_VALUE, Integer.MAX_VALUE},
             {Integer.MIN_VALUE, Integer.MIN_VALUE}, {3, 4}};
         int[] due = {0, 0, 2000000, 2000001, 0, 2000001, 1, 997003, 2997003, 863502, 909092, 2906093, 2860503, 991007};
         for (int i = 0; i < told.length; i++) {
@@ -200,7 +200,7 @@ public final class SlateEdgesTest {
     }
 
     private static void chalkTakenAs() {
-        check.says("Place i of a SLATE, taken as of a SORT; CAST (it is of another SORT)");
+        check.says("Place i of a SLATE, taken as of a SORT", "CAST -12 (it is of another SORT)");
         CountedClub x = withSlates();
         for (int s = 0; s < 3; s++) {
             for (int sort = 0; sort < 3; sort++) {
@@ -237,7 +237,8 @@ public final class SlateEdgesTest {
     }
 
     private static void reckonAtTheEnds() {
-        check.says("j and k together, (1) j less k, (2) j times k: a PART -1000000 .. 1000000 by 1 .. 1000000, in lowest terms");
+        check.says("places j and k together, (1) j less k, (2) j times k",
+                "-1000000 .. 1000000 by 1 .. 1000000; it is held in lowest terms");
         int[] one = {1, 1};
         int[] minus = {-1, 1};
         int[] most = {MOST, 1};
@@ -336,7 +337,8 @@ public final class SlateEdgesTest {
     }
 
     private static void copyNone() {
-        check.says("n places of a SLATE from i on come to another one (or itself) from j on: n; INDEX (beyond an end, or fewer than none)");
+        check.says("n places of a SLATE from i on come to another one (or itself) from j on",
+                "or beyond an end, or fewer than none");
         CountedClub x = withSlates();
         x.slate(3, 0, 0);
         check.unchanged(x, "none of none", 0, () -> x.copy(3, 0, 3, 0, 0));
@@ -355,7 +357,7 @@ public final class SlateEdgesTest {
     }
 
     private static void copyToTheEnds() {
-        check.says("INDEX (a place that there is not, or beyond an end, or fewer than none)");
+        check.says("INDEX -14 (a place that there is not, or beyond an end, or fewer than none)");
         CountedClub x = numbered();
         check.due("all", x.again().copy(0, 0, 1, 0, 10), 10);
         check.unchanged(x, "one more than all", LeechClub.INDEX, () -> x.copy(0, 0, 1, 0, 11));

@@ -71,7 +71,8 @@ public final class TextEdgesTest {
     }
 
     private static void twelveFacts() {
-        check.says("FACTS are 0, 1 .. (written a, b ..), 12 at most; a thirteenth cannot stand there (at its word)");
+        check.says("(written a, b ..), 12 at most (none at first), the oldest first",
+                "a thirteenth cannot stand there (at its word)");
         fault(Clubs.TWELVE_FACTS, NONE);
         fault(Clubs.TWELVE_FACTS + ";fact", 60);
         fault(Clubs.TWELVE_FACTS + ";  fact  a", 62);
@@ -133,7 +134,7 @@ public final class TextEdgesTest {
     }
 
     private static void fourMembers() {
-        check.says("MEMBERS are 0, 1 .., 4 at most; a fifth cannot");
+        check.says("MEMBERS are 0, 1 .., 4 at most", "a fifth cannot");
         fault("member;member;member;member", NONE);
         fault("member;member;member;member;member", 28);
         fault("fact;member;member;member;member; member a", 34);
@@ -150,7 +151,9 @@ public final class TextEdgesTest {
     }
 
     private static void fiveLeeches() {
-        check.says("LEECHES are 0, 1 .., 5 at most, off (at first), and HAS a set (nothing at first); a sixth cannot");
+        check.says("LEECHES are 0, 1 .., 5 at most",
+                "or off (at first), and HAS a set (nothing at first)",
+                "a LEECH more, a sixth cannot");
         for (String word : new String[] {"common", "striped", "greedy", "bishop", "muff"}) {
             fault("muff;muff;muff;muff;" + word, NONE);
             fault("muff;muff;muff;muff;muff;" + word, 25);
@@ -364,7 +367,7 @@ public final class TextEdgesTest {
     }
 
     private static void numbersOfOneDigit() {
-        check.says("numbers of 1 digit; (a number out of its bounds, of more digits, also)");
+        check.says("numbers of 1 digit", "(a number out of its bounds, of more digits, also)");
         String start = "member;common;on ";
         fault(start + "00 0", 17);
         fault(start + "01 0", 17);
@@ -423,7 +426,7 @@ public final class TextEdgesTest {
     }
 
     private static void tooSoon() {
-        check.says("or at the end, if it comes too soon; (the letter with which the TOKEN begins, or the length)");
+        check.says("or at the end, if it comes too soon", "(the letter with which the TOKEN begins, or the length)");
         for (String word : WORDS) {
             fault(word + ";", word.length() + 1);
             fault(word + ";  ", word.length() + 3);
