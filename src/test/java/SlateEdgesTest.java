@@ -126,8 +126,8 @@ public final class SlateEdgesTest {
     private static void longRests() {
         check.says("a times 1000000000 and b more (longs)", "of longs likewise");
         int[][] told = {{0, 0}, {0, 1000003}, {0, -1000003}, {0, -1}, {1, -1000000000}, {1, -1000000001},
-            {-1, 1000000001}, {1, 0}, {-1, 0}, {Integer.MAX_VALUE, Integer.MAX_VALUE}, {Integer.MAX_VALUE, Integer.MIN_VALUE}, {Integer.MIN_VALUE, Integer.MAX_VALUE},
-            {Integer.MIN_VALUE, Integer.MIN_VALUE}, {3, 4}};
+            {-1, 1000000001}, {1, 0}, {-1, 0}, {Integer.MAX_VALUE, Integer.MAX_VALUE}, {Integer.MAX_VALUE, Integer.MIN_VALUE},
+            {Integer.MIN_VALUE, Integer.MAX_VALUE}, {Integer.MIN_VALUE, Integer.MIN_VALUE}, {3, 4}};
         int[] due = {0, 0, 2000000, 2000001, 0, 2000001, 1, 997003, 2997003, 863502, 909092, 2906093, 2860503, 991007};
         for (int i = 0; i < told.length; i++) {
             CountedClub x = withSlates();
